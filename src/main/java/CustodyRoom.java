@@ -489,6 +489,9 @@ public final class CustodyRoom {
 
         /** Puts slip i among those of lower numbers, which stand in ORDER already. */
         private void putInOrder(int i) {
+            if (!has(i)) {
+                return;
+            }
             int minute = cell(i, CELL_MINUTE);
             int k = i;
             while (k > 0 && cell(order[k - 1], CELL_MINUTE) > minute) {
@@ -626,8 +629,7 @@ public final class CustodyRoom {
     /**
      * How all things stand behind the slips that were told so far. The letters t, a, b, c, d are the
      * document's, of the slip that is being told. A thing's holder is the number of the place, hand
-     * or bag that its standing names, so it can be used as an index wherever that is AT_PLACE or
-     * IN_BAG.
+     * or bag that its standing names.
      */
     private static final class Standing {
         private final Stock stock;
@@ -843,11 +845,8 @@ public final class CustodyRoom {
         }
 
         private boolean comeFrom() {
-            if (how[t] != IN_BAG) {
-                return false;
-            }
-            int bag = holder[t];
-            if (seal[bag] != NONE || !keepersServe(isMoneyBag(t) || isMoneyBag(bag))) {
+            int bag = bagAround(t);
+            if (!stock.isThing(bag) || seal[bag] != NONE || !keepersServe(isMoneyBag(t) || isMoneyBag(bag))) {
                 return false;
             }
             if (how[bag] == IN_HAND) {
@@ -1010,35 +1009,42 @@ public final class CustodyRoom {
         }
 
         private void move(int x, int standing, int number) {
-            if (how[x] == AT_PLACE) {
-                lying[holder[x]] = NONE;
-            } else if (how[x] == IN_BAG) {
-                inside[holder[x]]--;
-            }
+            register(how[x], holder[x], NONE);
             how[x] = standing;
             holder[x] = number;
-            if (standing == AT_PLACE) {
+            register(standing, number, x);
+        }
+
+        /** Keeps count of what is at a place or in a bag, so that no call must look through all things. */
+        private void register(int standing, int number, int x) {
+            if (standing == AT_PLACE && number >= 0 && number < lying.length) {
                 lying[number] = x;
-            } else if (standing == IN_BAG) {
-                inside[number]++;
+            } else if (standing == IN_BAG && number >= 0 && number < inside.length) {
+                inside[number] += x == NONE ? -1 : 1;
             }
+        }
+
+        private int bagAround(int x) {
+            return how[x] == IN_BAG ? holder[x] : NONE;
         }
 
         private int outermost(int x) {
             int outer = x;
-            for (int steps = 0; steps < BAGS_AROUND && how[outer] == IN_BAG; steps++) {
-                outer = holder[outer];
+            int bag = bagAround(x);
+            for (int steps = 0; steps < BAGS_AROUND && stock.isThing(bag); steps++) {
+                outer = bag;
+                bag = bagAround(bag);
             }
             return outer;
         }
 
         private boolean isFree(int x) {
-            int outer = x;
-            for (int steps = 0; steps < BAGS_AROUND && how[outer] == IN_BAG; steps++) {
-                outer = holder[outer];
-                if (seal[outer] != NONE) {
+            int bag = bagAround(x);
+            for (int steps = 0; steps < BAGS_AROUND && stock.isThing(bag); steps++) {
+                if (seal[bag] != NONE) {
                     return false;
                 }
+                bag = bagAround(bag);
             }
             return true;
         }
@@ -1054,12 +1060,12 @@ public final class CustodyRoom {
 
         /** How many steps outward lead from a thing to a bag around it; 0 if it isn't around. */
         private int stepsUpTo(int x, int bag) {
-            int outer = x;
-            for (int steps = 1; steps <= BAGS_AROUND && how[outer] == IN_BAG; steps++) {
-                outer = holder[outer];
+            int outer = bagAround(x);
+            for (int steps = 1; steps <= BAGS_AROUND && stock.isThing(outer); steps++) {
                 if (outer == bag) {
                     return steps;
                 }
+                outer = bagAround(outer);
             }
             return 0;
         }
@@ -1075,7 +1081,7 @@ public final class CustodyRoom {
 
         private boolean isOf(int x, int source) {
             int from = origin[x];
-            for (int steps = 0; steps < THINGS && from != NONE; steps++) {
+            for (int steps = 0; steps < THINGS && stock.isThing(from); steps++) {
                 if (from == source) {
                     return true;
                 }
