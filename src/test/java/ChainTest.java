@@ -174,12 +174,13 @@ public final class ChainTest {
         x.slip(8, bag, 0, 0, 3, 0, 0);
         x.slip(10, bag, 0, 0, 3, 0, 0);
         x.slip(9, bag, 0, 0, 3, 0, 0);
+        x.slip(10, bag, 0, 0, NO, 0, 0);
         expect.same("all as sealed", x.breaks(bag), NO);
-        expect.same("LOOK at the other", x.slip(10, other, 0, 0, 3, 0, 0), 6);
-        expect.same("OPEN, seal 3 seen", x.breaks(other), 6);
+        expect.same("LOOK at the other", x.slip(10, other, 0, 0, 3, 0, 0), 7);
+        expect.same("OPEN, seal 3 seen", x.breaks(other), 7);
         x.slip(8, bag, 0, 0, 4, 0, 0);
-        expect.same("UNSEAL by what isn't its seal", x.slip(9, bag, 0, 0, 3, 0, 0), 8);
-        expect.same("break of UNSEAL", x.breaks(bag), 8);
+        expect.same("UNSEAL by what isn't its seal", x.slip(9, bag, 0, 0, 3, 0, 0), 9);
+        expect.same("break of UNSEAL", x.breaks(bag), 9);
         expect.same("of a thing", x.breaks(t), NO);
         expect.same("of -1", x.breaks(-1), NO);
         expect.same("of 3", x.breaks(3), NO);
@@ -219,6 +220,8 @@ public final class ChainTest {
             expect.same("due(7, " + i + ")", x.due(7, i), want[i]);
         }
         expect.same("due(8, 0)", x.due(8, 0), 2);
+        expect.same("where ahead of all", x.where(2, -1, 0, 0), 0);
+        expect.same("due(8, 0) behind it", x.due(8, 0), 2);
         expect.same("due(7, -1)", x.due(7, -1), NO);
         expect.same("due(min, 0)", x.due(Integer.MIN_VALUE, 0), NO);
         x.slip(4, 3, 0, 0, 3, 2, 0);

@@ -30,6 +30,7 @@ public final class ImageTest {
         checkInItsOrder();
         thawBack();
         thawAltered();
+        thawInItsOrder();
         whatStays();
         leftOut();
         sealsOfTheImage();
@@ -170,6 +171,18 @@ public final class ImageTest {
         expect.same("written", x.slipOf(2, 7), 20);
         expect.same("PUT to 7 at 7", x.slip(5, 0, 0, NO, 7, 0, 7), NO);
         expect.same("PUT to 7 at 12", x.slip(5, 0, 0, NO, 7, 0, 12), 3);
+    }
+
+    private static void thawInItsOrder() {
+        CustodyRoom x = room();
+        x.freeze();
+        x.alter(2, 6, 5);
+        expect.yes("thaw", x.thaw());
+        expect.same("the last in ORDER is slip 1", x.where(0, 30, 30, 1), 1);
+        expect.same("chain", x.chain(0, 2), 1);
+        x.alter(2, 6, 20);
+        expect.yes("thaw", x.thaw());
+        expect.same("the last in ORDER is slip 2", x.where(0, 30, 30, 1), 2);
     }
 
     private static void whatStays() {

@@ -21,6 +21,7 @@ public final class OrderTest {
         slipOf();
         whereAsKnown();
         whereForOthers();
+        whereAheadOfEach();
         keptUntilByDayOfSlip();
         expect.end();
     }
@@ -149,6 +150,33 @@ public final class OrderTest {
         for (int what = 0; what < 12; what++) {
             expect.same("nowhere yet, " + what, x.where(bag, 0, 0, what), nowhere[what]);
         }
+    }
+
+    private static void whereAheadOfEach() {
+        CustodyRoom x = room();
+        int t = x.thing(1, 10);
+        int s = x.thing(2, 0);
+        int u = x.thing(0, 0);
+        x.pass(100);
+        x.slip(1, t, 0, NO, 3, 2, 10);
+        x.slip(1, u, 0, NO, 4, 2, 10);
+        x.slip(11, t, 0, NO, s, 4, 20);
+        x.slip(6, u, 0, NO, t, 0, 20);
+        x.slip(8, t, 0, 0, 7, 0, 20);
+        x.slip(14, t, 0, 0, 9, 0, 20);
+        x.slip(15, t, 0, 0, 0, 0, 20);
+        x.slip(16, t, 0, 0, 5, 0, 20);
+        x.slip(2, t, 0, NO, 2, 8, 20);
+        int[] behind = {2, 2, 6, 7, 2, 2, 8, 9, 1, 1, 1, NO};
+        int[] ahead = {1, 3, 10, NO, 1, 3, NO, NO, 0, 0, 0, NO};
+        for (int what = 0; what < 12; what++) {
+            expect.same("behind all, " + what, x.where(t, 20, 100, what), behind[what]);
+            expect.same("ahead of them, " + what, x.where(t, 19, 100, what), ahead[what]);
+        }
+        expect.same("the sample, of what", x.where(s, 20, 100, 11), t);
+        expect.same("the sample ahead, of what", x.where(s, 19, 100, 11), NO);
+        expect.same("the sample ahead, how", x.where(s, 19, 100, 0), 0);
+        expect.same("the sample ahead, weight", x.where(s, 19, 100, 2), 0);
     }
 
     private static void keptUntilByDayOfSlip() {

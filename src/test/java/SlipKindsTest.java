@@ -62,6 +62,7 @@ public final class SlipKindsTest {
         keepAndTrials();
         destroyed();
         destroyedWithParts();
+        destroyedWithPartsOfOthers();
         found();
         onlyKept();
         expect.end();
@@ -571,6 +572,20 @@ public final class SlipKindsTest {
         refused("DESTROYED of the part", x.slip(18, s, 0, 1, 3, 0, 0));
         taken("BACK of the copy", x.slip(4, copy, 0, 0, 6, 0, 0));
         taken("DESTROYED of the part", x.slip(18, s, 0, 1, 3, 0, 0));
+    }
+
+    private static void destroyedWithPartsOfOthers() {
+        CustodyRoom x = room();
+        int t = placed(x, 0, 40, 0);
+        int u = placed(x, 0, 40, 1);
+        int s = x.thing(2, 0);
+        int s2 = x.thing(2, 0);
+        taken("DESTROY", x.slip(15, t, 0, 0, 0, 0, 0));
+        taken("PART of the other", x.slip(11, u, 0, 0, s2, 4, 0));
+        taken("PART", x.slip(11, t, 0, 0, s, 4, 0));
+        refused("DESTROYED: its part is in a hand", x.slip(18, t, 0, 1, 3, 0, 0));
+        taken("BACK of its part", x.slip(4, s, 0, 0, 5, 0, 0));
+        taken("DESTROYED: the other's part alone is", x.slip(18, t, 0, 1, 3, 0, 0));
     }
 
     private static void found() {

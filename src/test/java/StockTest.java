@@ -55,6 +55,8 @@ public final class StockTest {
             boolean taken = i < 12 && i % 2 == 0;
             expect.same("IN by hand " + i, x.slip(1, t, i, -1, i % 12, 1, 0) != -1 ? 1 : 0, taken ? 1 : 0);
         }
+        expect.same("IN by hand 20", x.slip(1, 1, 20, -1, 1, 1, 0), -1);
+        expect.same("IN from hand 20", x.slip(1, 1, 0, -1, 1, 20, 0), -1);
     }
 
     private static void shelves() {
@@ -72,6 +74,11 @@ public final class StockTest {
         expect.same("IN to 95", x.slip(1, t, 0, -1, 95, 0, 0), 0);
         expect.same("cold bag to 83", x.slip(1, coldBag, 0, -1, 83, 0, 0), -1);
         expect.same("cold bag to 84", x.slip(1, coldBag, 0, -1, 84, 0, 0), 1);
+        expect.same("cold bag to 96", x.slip(5, coldBag, 0, -1, 96, 0, 0), -1);
+        CustodyRoom y = new CustodyRoom();
+        y.hand(true);
+        y.shelf(true);
+        expect.same("cold bag to 0 of a cold shelf", y.slip(1, y.thing(4, 0), 0, -1, 0, 0, 0), 0);
     }
 
     private static void seals() {
@@ -132,6 +139,17 @@ public final class StockTest {
         }
         expect.same("thing 61", x.thing(0, 0), -1);
         expect.same("about(2)", x.about(2), 60);
+        expect.same("breaks(60)", x.breaks(60), -1);
+        expect.same("chain(60, 0)", x.chain(60, 0), -1);
+        expect.same("gap(60, 0, 0)", x.gap(60, 0, 0), -1);
+        expect.same("where(60, ..)", x.where(60, 0, 0, 0), -1);
+        x.hand(true);
+        x.shelf(false);
+        expect.same("IN of thing 60", x.slip(1, 60, 0, -1, 0, 0, 0), -1);
+        expect.same("fault", x.fault(0), 3);
+        expect.same("IN", x.slip(1, 0, 0, -1, 0, 0, 0), 0);
+        expect.same("INTO thing 60", x.slip(6, 0, 0, -1, 60, 0, 0), -1);
+        expect.same("PART to thing 60", x.slip(11, 0, 0, -1, 60, 1, 0), -1);
         CustodyRoom y = new CustodyRoom();
         expect.same("weight 1000000", y.thing(5, 1000000), 0);
     }
