@@ -2,12 +2,22 @@
 final class Expect {
     private int asked;
     private int wrong;
+    private String ahead = "";
+
+    /** What is printed ahead of each wrong answer from here on. */
+    void under(String heading) {
+        ahead = heading;
+    }
+
+    int asked() {
+        return asked;
+    }
 
     void same(String call, long got, long want) {
         asked++;
         if (got != want) {
             wrong++;
-            System.out.println(call + " answered " + got + ", due is " + want);
+            System.out.println(ahead + call + " answered " + got + ", due is " + want);
         }
     }
 
