@@ -257,8 +257,12 @@ final class BoundaryAnswers implements Words {
         s.is(t, 8, 0);
         s.taken(IN, t, ANN, NONE, 0, DAN);
         s.is(t, 8, 0);
-        s.taken(DESTROY, t, NONE, NONE, 0, 0);
+        s.room.pass(10);
+        s.takenAt(5, DESTROY, t, NONE, NONE, 0, 0);
         s.is(t, 8, 1);
+        expect.same("at 5 as known at 10", s.room.where(t, 5, 10, 8), 1);
+        expect.same("at 4 as known at 10", s.room.where(t, 4, 10, 8), 0);
+        expect.same("at 10 as known at 9", s.room.where(t, 10, 9, 8), 0);
     }
 
     private static void howManyTrials(Expect expect) {
@@ -280,6 +284,12 @@ final class BoundaryAnswers implements Words {
         int bag = s.lay(A_BAG, 9, 0);
         int outer = s.lay(A_BAG, 9, 1);
         s.is(bag, 10, 0);
+        // Bag 0 hasn't what hand 0 or place 0 has.
+        int held = s.give(A_THING, 9, bag);
+        s.is(bag, 10, 0);
+        s.draw(A_COPY, held);
+        s.is(bag, 10, 0);
+        int first = held + 2;
         for (int i = 1; i <= 8; i++) {
             s.taken(INTO, s.lay(A_THING, 0, 2), ANN, NONE, bag, 0);
             s.is(bag, 10, i);
@@ -287,9 +297,9 @@ final class BoundaryAnswers implements Words {
         s.taken(INTO, bag, ANN, NONE, outer, 0);
         s.is(outer, 10, 1);
         s.is(bag, 10, 8);
-        s.taken(FOUND, outer + 1, NONE, NONE, 2, NONE);
+        s.taken(FOUND, first, NONE, NONE, 2, NONE);
         s.is(bag, 10, 7);
-        s.is(outer + 1, 10, 0);
+        s.is(first, 10, 0);
     }
 
     private static void ofWhat(Expect expect) {
@@ -349,14 +359,16 @@ final class BoundaryAnswers implements Words {
         int u = s.lay(A_THING, 9, 1);
         s.room.pass(399);
         for (int n = 2; n < 400; n++) {
-            s.takenAt(n == 399 ? 1 : n, PUT, t, ANN, NONE, n % 2 == 0 ? 2 : 3, 0);
+            int place = n % 2 == 0 ? 2 : 3;
+            expect.same("PUT", s.room.slip(PUT, t, ANN, NONE, place, 0, n == 399 ? 1 : n), n);
         }
         // The longest there can be here, the last written being the second in ORDER.
         expect.same("chain(t, 0)", s.room.chain(t, 0), 0);
         expect.same("chain(t, 1)", s.room.chain(t, 1), 399);
-        for (int i = 2; i < 399; i++) {
+        for (int i = 2; i < 399; i += 9) {
             expect.same("chain(t, " + i + ")", s.room.chain(t, i), i);
         }
+        expect.same("chain(t, 398)", s.room.chain(t, 398), 398);
         expect.same("chain(t, 399)", s.room.chain(t, 399), NONE);
         s.chainIs(u, 1);
     }
@@ -474,6 +486,18 @@ final class BoundaryAnswers implements Words {
         expect.same("due(0, 0) of what is gone", s.room.due(0, 0), NONE);
         s.takenAt(10, KEEP, made[0], NONE, NONE, 0, 0);
         expect.same("due(0, 0)", s.room.due(0, 0), made[0]);
+        // Whatever was asked or refused in between.
+        expect.same("ahead of all", s.room.where(made[0], -1, 50, 7), NONE);
+        expect.same("due(0, 0)", s.room.due(0, 0), made[0]);
+        s.refusedAt(0, s.slips(), WEIGH, made[0], NONE, NONE, 0, 10);
+        expect.same("due(0, 0)", s.room.due(0, 0), made[0]);
+        for (int i = made.length; i < 60; i++) {
+            expect.same("thing", s.add(A_THING, 0), i);
+        }
+        s.takenAt(50, IN, 59, ANN, NONE, 11, DAN);
+        s.takenAt(50, KEEP, 59, NONE, NONE, 0, 0);
+        expect.same("due(0, 1) of the last thing", s.room.due(0, 1), 59);
+        expect.same("due(0, 2)", s.room.due(0, 2), NONE);
     }
 
     private static void noneDue(Expect expect) {
@@ -499,9 +523,7 @@ final class BoundaryAnswers implements Words {
         expect.same("freeze of none", s.room.freeze(), 0);
         int t = s.lay(A_THING, 9, 0);
         expect.same("freeze of one", s.room.freeze(), 1);
-        while (s.slips() < 400) {
-            s.taken(WEIGH, t, NONE, NONE, 0, 0);
-        }
+        s.fill(t, 400);
         expect.same("the IMAGE has one still", s.room.about(6), 1);
         expect.same("freeze of 400", s.room.freeze(), 400);
         expect.yes("alter of the last", s.room.alter(399, 5, 9));
@@ -632,6 +654,18 @@ final class BoundaryAnswers implements Words {
             s.room.alter(1, 6, minute);
             expect.same("1, written at 10, of " + minute, s.room.check(), NONE);
         }
+        // The first and the last in ORDER: but for that minute they could be DONE.
+        for (int minute : new int[] {MIN, -1441, -1440, -1}) {
+            s.room.alter(0, 6, minute);
+            expect.same("0 of " + minute, s.room.check(), 0);
+        }
+        s.room.alter(0, 6, 0);
+        for (int minute : new int[] {21, 30, 31, MAX}) {
+            s.room.alter(2, 6, minute);
+            expect.same("2, written at 20, of " + minute, s.room.check(), 2);
+        }
+        s.room.alter(2, 6, 20);
+        expect.same("as written", s.room.check(), NONE);
     }
 
     private static void checkAllCan(Expect expect) {
@@ -649,7 +683,7 @@ final class BoundaryAnswers implements Words {
     }
 
     private static void checkWithoutImage(Expect expect) {
-        expect.same("check of a new room", new CustodyRoom().check(), -2);
+        expect.same("check of a new room", new Counted(expect).check(), -2);
         Scene s = three(expect);
         expect.same("check", s.room.check(), -2);
         s.room.freeze();
@@ -692,7 +726,7 @@ final class BoundaryAnswers implements Words {
         String before = s.state();
         expect.no("thaw", s.room.thaw());
         expect.yes("all is as before", s.state().equals(before));
-        expect.no("thaw of a new room", new CustodyRoom().thaw());
+        expect.no("thaw of a new room", new Counted(expect).thaw());
     }
 
     private static void thawOfUndone(Expect expect) {

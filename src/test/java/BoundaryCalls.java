@@ -92,7 +92,7 @@ final class BoundaryCalls implements Words {
     }
 
     private static void nothingAtFirst(Expect expect) {
-        CustodyRoom x = new CustodyRoom();
+        Counted x = new Counted(expect);
         for (int what = 0; what <= 3; what++) {
             expect.same("about(" + what + ")", x.about(what), 0);
         }
@@ -110,7 +110,7 @@ final class BoundaryCalls implements Words {
 
     private static void allRowsMissing(Expect expect) {
         for (int row = 0; row < 6; row++) {
-            CustodyRoom x = new CustodyRoom();
+            Counted x = new Counted(expect);
             x.hand(true);
             x.shelf(false);
             x.thing(A_BAG, 0);
@@ -122,7 +122,7 @@ final class BoundaryCalls implements Words {
     }
 
     private static void nowIsZero(Expect expect) {
-        CustodyRoom x = new CustodyRoom();
+        Counted x = new Counted(expect);
         expect.same("NOW", x.about(4), 0);
         x.hand(true);
         x.shelf(false);
@@ -134,7 +134,7 @@ final class BoundaryCalls implements Words {
     }
 
     private static void handNumbers(Expect expect) {
-        CustodyRoom x = new CustodyRoom();
+        Counted x = new Counted(expect);
         for (int i = 0; i < 20; i++) {
             expect.same("hand", x.hand(i % 2 == 0), i);
             expect.same("how many", x.about(0), i + 1);
@@ -142,7 +142,7 @@ final class BoundaryCalls implements Words {
     }
 
     private static void noneIfThereAre20(Expect expect) {
-        CustodyRoom x = new CustodyRoom();
+        Counted x = new Counted(expect);
         for (int i = 0; i < 19; i++) {
             x.hand(false);
         }
@@ -159,7 +159,7 @@ final class BoundaryCalls implements Words {
     }
 
     private static void shelfNumbers(Expect expect) {
-        CustodyRoom x = new CustodyRoom();
+        Counted x = new Counted(expect);
         for (int i = 0; i < 8; i++) {
             expect.same("shelf", x.shelf(i % 2 == 0), i);
             expect.same("how many", x.about(1), i + 1);
@@ -167,7 +167,7 @@ final class BoundaryCalls implements Words {
     }
 
     private static void noneIfThereAre8(Expect expect) {
-        CustodyRoom x = new CustodyRoom();
+        Counted x = new Counted(expect);
         for (int i = 0; i < 7; i++) {
             x.shelf(false);
         }
@@ -234,10 +234,31 @@ final class BoundaryCalls implements Words {
         s.taken(LOOK, other, NONE, NONE, 200, 0);
         s.refused(CLOSE, bag, NONE, NONE, 200, 0);
         expect.yes("seals(2, 0)", s.room.seals(2, 0));
+        sealOfTheFirstSlip(expect);
+    }
+
+    /** By way of an altered IMAGE the CLOSE may be slip 0, ahead of the IN by its number alone. */
+    private static void sealOfTheFirstSlip(Expect expect) {
+        Scene s = new Scene(expect);
+        int bag = s.add(A_BAG, 0);
+        s.room.pass(10);
+        s.takenAt(5, IN, bag, ANN, NONE, 0, DAN);
+        s.takenAt(6, PUT, bag, ANN, NONE, 1, 0);
+        s.room.freeze();
+        int[][] altered = {{0, 0, CLOSE}, {0, 4, 3}, {0, 6, 6}, {1, 0, IN}, {1, 6, 5}};
+        for (int[] x : altered) {
+            expect.yes("alter", s.room.alter(x[0], x[1], x[2]));
+        }
+        expect.yes("seals(0, 3) ahead of thaw", s.room.seals(0, 3));
+        expect.no("thaw, without the seal", s.room.thaw());
+        expect.yes("seals(0, 4)", s.room.seals(0, 4));
+        expect.yes("thaw", s.room.thaw());
+        expect.no("seals(0, 3) behind thaw", s.room.seals(0, 3));
+        s.is(bag, 3, 3);
     }
 
     private static void kindsOfThings(Expect expect) {
-        CustodyRoom x = new CustodyRoom();
+        Counted x = new Counted(expect);
         for (int kind = 0; kind <= 5; kind++) {
             expect.same("thing(" + kind + ", 0)", x.thing(kind, 0), kind);
         }
@@ -248,7 +269,7 @@ final class BoundaryCalls implements Words {
     }
 
     private static void weightsOfThings(Expect expect) {
-        CustodyRoom x = new CustodyRoom();
+        Counted x = new Counted(expect);
         for (int kind : new int[] {A_THING, A_BAG, A_COLD_BAG, A_MONEY_BAG}) {
             int number = x.about(2);
             expect.same("thing(" + kind + ", 0)", x.thing(kind, 0), number);
@@ -261,7 +282,7 @@ final class BoundaryCalls implements Words {
     }
 
     private static void noneForOtherThings(Expect expect) {
-        CustodyRoom x = new CustodyRoom();
+        Counted x = new Counted(expect);
         for (int kind = 0; kind <= 5; kind++) {
             for (int weight : new int[] {MIN, -1, 1000001, MAX}) {
                 expect.same("thing(" + kind + ", " + weight + ")", x.thing(kind, weight), NONE);
@@ -276,7 +297,7 @@ final class BoundaryCalls implements Words {
     }
 
     private static void noneIfThereAre60Things(Expect expect) {
-        CustodyRoom x = new CustodyRoom();
+        Counted x = new Counted(expect);
         for (int i = 0; i < 60; i++) {
             expect.same("thing, with " + i, x.thing(A_THING, i), i);
         }
@@ -287,7 +308,7 @@ final class BoundaryCalls implements Words {
     }
 
     private static void minutesGoBy(Expect expect) {
-        CustodyRoom x = new CustodyRoom();
+        Counted x = new Counted(expect);
         expect.same("pass(0)", x.pass(0), 0);
         expect.same("pass(1)", x.pass(1), 1);
         expect.same("pass(100000)", x.pass(100000), 100001);
@@ -297,7 +318,7 @@ final class BoundaryCalls implements Words {
     }
 
     private static void noneGoBy(Expect expect) {
-        CustodyRoom x = new CustodyRoom();
+        Counted x = new Counted(expect);
         x.pass(5);
         for (int minutes : new int[] {MIN, -5, -1, 100001, 100000000, MAX - 4, MAX}) {
             expect.same("pass(" + minutes + ")", x.pass(minutes), NONE);
@@ -305,7 +326,7 @@ final class BoundaryCalls implements Words {
         }
     }
 
-    /** 1000 calls are past an object's 512, but no sooner can NOW come to its bound. */
+    /** 1000 calls are past an object's 512, but no sooner can NOW come to its bound: the one test that goes there. */
     private static void nowWouldBeAbove(Expect expect) {
         CustodyRoom x = new CustodyRoom();
         for (int i = 0; i < 999; i++) {
@@ -352,9 +373,7 @@ final class BoundaryCalls implements Words {
     private static Scene full(Expect expect) {
         Scene s = new Scene(expect);
         int t = s.give(A_THING, 9, DAN);
-        while (s.slips() < 400) {
-            s.taken(WEIGH, t, NONE, NONE, 0, 0);
-        }
+        s.fill(t, 400);
         s.room.pass(10);
         return s;
     }
@@ -501,7 +520,7 @@ final class BoundaryCalls implements Words {
     }
 
     private static void faultAheadOfAny(Expect expect) {
-        CustodyRoom x = new CustodyRoom();
+        Counted x = new Counted(expect);
         expect.same("fault(0)", x.fault(0), NONE);
         expect.same("fault(1)", x.fault(1), NONE);
         x.hand(true);
@@ -693,7 +712,7 @@ final class BoundaryCalls implements Words {
             expect.no("no to " + handing, s.room.no(handing, DAN));
         }
         expect.yes("no to 0", s.room.no(0, DAN));
-        CustodyRoom x = new CustodyRoom();
+        Counted x = new Counted(expect);
         expect.no("no without any", x.no(0, 0));
     }
 
@@ -723,24 +742,25 @@ final class BoundaryCalls implements Words {
     }
 
     private static void counts(Expect expect) {
-        CustodyRoom x = new CustodyRoom();
+        Counted x = new Counted(expect);
         for (int what = 0; what <= 5; what++) {
             expect.same("about(" + what + ") at first", x.about(what), 0);
         }
-        Scene s = full(expect);
-        for (int i = 0; i < 20; i++) {
-            s.room.hand(true);
-            s.room.shelf(true);
+        // All that a room can have takes more than 512 calls: one without slips, one without the rest.
+        for (int i = 0; i <= 62; i++) {
+            x.hand(true);
+            x.shelf(true);
+            x.thing(A_BAG, 0);
+            x.handing(0, 0, 1, 0);
         }
-        for (int i = 0; i < 60; i++) {
-            s.add(A_BAG, 0);
-        }
-        for (int i = 0; i < 61; i++) {
-            s.room.handing(59, 18, 19, 10);
-        }
-        int[] full = {20, 8, 60, 400, 10, 60};
+        int[] most = {20, 8, 60, 0, 0, 60};
         for (int what = 0; what <= 5; what++) {
-            expect.same("about(" + what + ") of a full room", s.room.about(what), full[what]);
+            expect.same("about(" + what + ") of a full room", x.about(what), most[what]);
+        }
+        Scene s = full(expect);
+        int[] others = {5, 2, 1, 400, 10, 0};
+        for (int what = 0; what <= 5; what++) {
+            expect.same("about(" + what + ") with all slips", s.room.about(what), others[what]);
         }
     }
 
@@ -797,6 +817,16 @@ final class BoundaryCalls implements Words {
         }
         for (int i = 0; i < minutes.length; i++) {
             expect.same("slipOf(" + i + ", 8)", s.room.slipOf(i, 8), late[i]);
+        }
+        // Behind the first alone, and behind the one just ahead alone.
+        Scene u = new Scene(expect);
+        u.room.pass(20);
+        u.takenAt(10, IN, u.add(A_THING, 0), ANN, NONE, 0, DAN);
+        u.takenAt(9, IN, u.add(A_THING, 0), ANN, NONE, 1, DAN);
+        u.takenAt(20, IN, u.add(A_THING, 0), ANN, NONE, 2, DAN);
+        u.takenAt(19, IN, u.add(A_THING, 0), ANN, NONE, 3, DAN);
+        for (int i = 0; i < 4; i++) {
+            expect.same("slipOf(" + i + ", 8)", u.room.slipOf(i, 8), i % 2);
         }
     }
 

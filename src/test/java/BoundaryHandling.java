@@ -364,6 +364,7 @@ final class BoundaryHandling implements Words {
 
     private static void over(Expect expect) {
         Scene s = new Scene(expect);
+        s.pad();
         int t = s.lay(A_THING, 9, 0);
         int other = s.lay(A_THING, 9, 1);
         for (int c = 0; c <= 30; c++) {
@@ -462,6 +463,7 @@ final class BoundaryHandling implements Words {
 
     private static void destroyedEmpty(Expect expect) {
         Scene s = new Scene(expect);
+        s.pad();
         int bag = doomed(s, A_BAG, 0);
         int t = s.lay(A_THING, 0, 1);
         s.taken(INTO, t, ANN, NONE, bag, 0);
@@ -476,6 +478,7 @@ final class BoundaryHandling implements Words {
 
     private static void destroyedNothingInHand(Expect expect) {
         Scene s = new Scene(expect);
+        s.pad();
         int t = doomed(s, A_THING, 0);
         int other = s.lay(A_THING, 9, 1);
         s.draw(A_SAMPLE, other);
@@ -493,6 +496,23 @@ final class BoundaryHandling implements Words {
         s.refused(DESTROYED, t, ANN, BEN, CAT, 0);
         // In a bag that a hand has it isn't itself in a hand.
         s.taken(INTO, far, ANN, NONE, s.give(A_BAG, 0, DAN), 0);
+        s.taken(DESTROYED, t, ANN, BEN, CAT, 0);
+        partsOfEveryNumber(expect);
+    }
+
+    /** Samples that are the first and the last thing there can be. */
+    private static void partsOfEveryNumber(Expect expect) {
+        Scene s = new Scene(expect);
+        int first = s.add(A_SAMPLE, 0);
+        int t = doomed(s, A_THING, 0);
+        for (int i = 2; i < 60; i++) {
+            expect.same("a sample", s.add(A_SAMPLE, 0), i);
+        }
+        for (int sample : new int[] {first, 59}) {
+            s.taken(PART, t, ANN, NONE, sample, 1);
+            s.refused(DESTROYED, t, ANN, BEN, CAT, 0);
+            s.taken(BACK, sample, ANN, NONE, 1 + sample % 7, ANN);
+        }
         s.taken(DESTROYED, t, ANN, BEN, CAT, 0);
     }
 

@@ -80,6 +80,7 @@ final class BoundaryMoves implements Words {
         int[] byTwo = {IN, OUT, BACK, PUT, INTO, FROM, CLOSE, UNSEAL, PART, COPY, DESTROYED};
         for (int kind : byTwo) {
             Scene s = new Scene(expect);
+            s.pad();
             int[] x = readyOfMoney(s, kind);
             for (int b : NO_KEEPERS) {
                 s.refused(kind, x[1], ANN, b, x[4], x[5]);
@@ -417,10 +418,12 @@ final class BoundaryMoves implements Words {
     private static void intoFromBeside(Expect expect) {
         Scene s = new Scene(expect);
         int t = s.lay(A_THING, 0, DAN);
-        int bag = s.lay(A_BAG, 0, 20);
+        int bag = s.lay(A_BAG, 0, EVE);
         int held = s.give(A_BAG, 0, DAN);
+        // A place and a hand of one number are not one.
         s.refused(INTO, t, ANN, NONE, held, 0);
         s.refused(INTO, held, ANN, NONE, bag, 0);
+        s.refused(INTO, s.give(A_THING, 0, EVE), ANN, NONE, bag, 0);
         s.taken(INTO, t, ANN, NONE, bag, 0);
         // t is in a bag now: it goes from there to no other, nor into one that is in a bag itself.
         s.refused(INTO, t, ANN, NONE, held, 0);

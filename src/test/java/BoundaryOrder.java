@@ -66,9 +66,7 @@ final class BoundaryOrder implements Words {
         s.taken(IN, t, ANN, NONE, 0, DAN);
         s.refusedAt(0, 1, WEIGH, t, NONE, NONE, 0, 10);
         s.refusedAt(0, 1, WEIGH, t, NONE, NONE, 0, 11);
-        for (int n = 1; n < 399; n++) {
-            s.taken(WEIGH, t, NONE, NONE, 0, 0);
-        }
+        s.fill(t, 399);
         s.refusedAt(0, 399, WEIGH, t, NONE, NONE, 0, 10);
     }
 
@@ -77,7 +75,7 @@ final class BoundaryOrder implements Words {
             Scene s = new Scene(expect);
             int[] x = s.ready(kind);
             int length = 0;
-            while (s.room.chain(x[1], length) != NONE) {
+            while (length < 10 && s.room.chain(x[1], length) != NONE) {
                 length++;
             }
             int number = s.taken(kind, x[1], x[2], x[3], x[4], x[5]);

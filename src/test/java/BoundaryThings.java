@@ -40,7 +40,7 @@ final class BoundaryThings implements Words {
     }
 
     private static void allOf512Calls(Expect expect) {
-        CustodyRoom x = new CustodyRoom();
+        Counted x = new Counted(expect);
         x.hand(true);
         x.shelf(false);
         x.thing(0, 5);
@@ -56,7 +56,7 @@ final class BoundaryThings implements Words {
     }
 
     private static void hands(Expect expect) {
-        CustodyRoom x = new CustodyRoom();
+        Counted x = new Counted(expect);
         for (int i = 0; i < 20; i++) {
             expect.same("hand " + i, x.hand(true), i);
         }
@@ -74,7 +74,7 @@ final class BoundaryThings implements Words {
     }
 
     private static void someKeepers(Expect expect) {
-        CustodyRoom x = new CustodyRoom();
+        Counted x = new Counted(expect);
         for (int i = 0; i < 20; i++) {
             x.hand(i == 0 || i == 7 || i == 19);
         }
@@ -87,7 +87,7 @@ final class BoundaryThings implements Words {
     }
 
     private static void shelves(Expect expect) {
-        CustodyRoom x = new CustodyRoom();
+        Counted x = new Counted(expect);
         x.hand(true);
         x.thing(0, 0);
         expect.same("IN without shelves", x.slip(1, 0, 0, NONE, 0, 0, 0), NONE);
@@ -102,7 +102,7 @@ final class BoundaryThings implements Words {
     }
 
     private static void someCold(Expect expect) {
-        CustodyRoom x = new CustodyRoom();
+        Counted x = new Counted(expect);
         x.hand(true);
         for (int i = 0; i < 8; i++) {
             x.shelf(i % 3 == 0);
@@ -113,7 +113,7 @@ final class BoundaryThings implements Words {
     }
 
     private static void twelvePlaces(Expect expect) {
-        CustodyRoom x = new CustodyRoom();
+        Counted x = new Counted(expect);
         x.hand(true);
         x.shelf(false);
         x.thing(0, 0);
@@ -147,7 +147,7 @@ final class BoundaryThings implements Words {
     }
 
     private static void missingAtFirst(Expect expect) {
-        CustodyRoom x = new CustodyRoom();
+        Counted x = new Counted(expect);
         x.hand(true);
         x.shelf(false);
         x.thing(1, 0);
@@ -241,6 +241,7 @@ final class BoundaryThings implements Words {
 
     private static void moneyBagNeedsTwo(Expect expect) {
         Scene s = new Scene(expect);
+        s.pad();
         int money = s.add(A_MONEY_BAG, 9);
         int t = s.lay(A_THING, 0, 0);
         int bag = s.lay(A_BAG, 0, 1);
@@ -331,7 +332,7 @@ final class BoundaryThings implements Words {
     }
 
     private static void nowOnlyRises(Expect expect) {
-        CustodyRoom x = new CustodyRoom();
+        Counted x = new Counted(expect);
         expect.same("NOW at first", x.about(4), 0);
         expect.same("pass(0)", x.pass(0), 0);
         expect.same("pass(1)", x.pass(1), 1);
@@ -347,9 +348,7 @@ final class BoundaryThings implements Words {
     private static void slipNumbers(Expect expect) {
         Scene s = new Scene(expect);
         int t = s.lay(A_THING, 0, 0);
-        for (int n = 1; n < 400; n++) {
-            s.taken(WEIGH, t, NONE, NONE, 0, 0);
-        }
+        s.fill(t, 400);
         s.refusedBy(1, 0, WEIGH, t, NONE, NONE, 0, 0);
         expect.same("kind of slip 399", s.room.slipOf(399, 0), WEIGH);
         expect.same("kind of slip 400", s.room.slipOf(400, 0), NONE);

@@ -3,11 +3,12 @@
  * 12 .. 23 are; seals 0 .. 9 are GIVEN OUT. Slips are of the minute NOW where no other is told.
  */
 final class Scene implements Words {
-    final CustodyRoom room = new CustodyRoom();
+    final Counted room;
     private final Expect expect;
 
     Scene(Expect expect) {
         this.expect = expect;
+        room = new Counted(expect);
         for (int i = 0; i < 5; i++) {
             room.hand(i <= CAT);
         }
@@ -17,16 +18,23 @@ final class Scene implements Words {
     }
 
     int now() {
-        return room.about(4);
+        return room.now();
     }
 
     int slips() {
-        return room.about(3);
+        return room.slips();
     }
 
     /** A thing that was never KEPT. */
     int add(int kind, int weight) {
         return room.thing(kind, weight);
+    }
+
+    /** Ten things that are left alone, so that no thing told later has the number of a hand or of a day. */
+    void pad() {
+        for (int i = 0; i < 10; i++) {
+            add(A_THING, 0);
+        }
     }
 
     int lay(int kind, int weight, int place) {
@@ -49,6 +57,13 @@ final class Scene implements Words {
         return x;
     }
 
+    /** Slips that change nothing, of a thing that is FREE, until there are so many; a call each, no more. */
+    void fill(int t, int many) {
+        for (int n = slips(); n < many; n++) {
+            expect.same("WEIGH " + n, room.slip(WEIGH, t, NONE, NONE, 0, 0, now()), n);
+        }
+    }
+
     /** Of a thing at a place: it is gone then. */
     void destroy(int t) {
         taken(DESTROY, t, NONE, NONE, 0, 0);
@@ -62,7 +77,6 @@ final class Scene implements Words {
     int takenAt(int minute, int... slip) {
         int number = slips();
         expect.same(told(minute, slip), write(minute, slip), number);
-        expect.same("the slips behind " + told(minute, slip), slips(), number + 1);
         expect.same("the fault of " + told(minute, slip), room.fault(0), 0);
         return number;
     }
@@ -81,7 +95,7 @@ final class Scene implements Words {
         int before = slips();
         expect.same(told(minute, slip), write(minute, slip), NONE);
         expect.same("the fault of " + told(minute, slip), room.fault(0), fault);
-        expect.same("the slips behind " + told(minute, slip), slips(), before);
+        expect.same("the slips behind " + told(minute, slip), room.about(3), before);
     }
 
     private int write(int minute, int... slip) {
