@@ -1,22 +1,23 @@
+import java.io.IOException;
 import java.lang.reflect.Constructor;
 import java.lang.reflect.Field;
 import java.lang.reflect.Method;
 import java.lang.reflect.Modifier;
-import java.util.Arrays;
+import java.nio.file.Files;
+import java.nio.file.Path;
 import java.util.Set;
 import java.util.TreeSet;
+import java.util.regex.Matcher;
+import java.util.regex.Pattern;
 
 /** The public face of the document, no more and no less, and rule 1 of LANGUAGE.md. */
 public final class FaceTest {
     private static final Expect expect = new Expect();
+    private static final Pattern METHOD = Pattern.compile(" {4}public (\\w+ \\w+)\\((.*)\\);");
 
-    public static void main(String[] args) {
-        Set<String> due = new TreeSet<>(Arrays.asList("int hand(boolean)", "int shelf(boolean)",
-                "boolean seals(int, int)", "int thing(int, int)", "int pass(int)",
-                "int slip(int, int, int, int, int, int, int)", "int fault(int)", "int handing(int, int, int, int)",
-                "int yes(int, int, int)", "boolean no(int, int)", "int about(int)", "int slipOf(int, int)",
-                "int where(int, int, int, int)", "int chain(int, int)", "int gap(int, int, int)", "int breaks(int)",
-                "int due(int, int)", "int freeze()", "boolean alter(int, int, int)", "int check()", "boolean thaw()"));
+    public static void main(String[] args) throws IOException {
+        Set<String> due = faceOfDocument();
+        expect.same("methods of the document's face", due.size(), 21);
         Set<String> found = new TreeSet<>();
         Set<String> names = new TreeSet<>();
         Class<CustodyRoom> face = CustodyRoom.class;
@@ -53,6 +54,18 @@ public final class FaceTest {
             }
         }
         expect.end();
+    }
+
+    /** The document's lines of the face, with the parameters' types alone. */
+    private static Set<String> faceOfDocument() throws IOException {
+        Set<String> face = new TreeSet<>();
+        for (String line : Files.readAllLines(Path.of("../shared/DOC.md"))) {
+            Matcher method = METHOD.matcher(line);
+            if (method.matches()) {
+                face.add(method.group(1) + "(" + method.group(2).replaceAll(" \\w+(?=,|$)", "") + ")");
+            }
+        }
+        return face;
     }
 
     private static String told(Method method) {
